@@ -494,27 +494,26 @@ public final class GlenGames {
             return bestEnd;
         }
 
-        /** Orders come by numbers of events, so a later one is kept only if it ends sooner. */
         private void search(int left, int depth, int end) {
             if (left == 0) {
                 keep(depth, end);
                 return;
             }
-            if (depth >= LAID) {
-                return;
+            for (int e = 0; e < EVENTS && depth < LAID; e++) {
+                if ((left >> e & 1) == 1) {
+                    searchBehind(e, left & ~(1 << e), depth, end);
+                }
             }
-            for (int e = 0; e < EVENTS; e++) {
-                if ((left >> e & 1) == 0) {
-                    continue;
-                }
-                int at = firstFit(e, depth);
-                int endsNow = Math.max(end, at + events[e].spells);
-                if (endsNow > length || endsNow >= bestEnd) {
-                    continue;
-                }
-                triedOrder[depth] = e;
-                triedBegins[e] = at;
-                search(left & ~(1 << e), depth + 1, endsNow);
+        }
+
+        /** Orders come by numbers of events, so one is followed only while it may end sooner than the best. */
+        private void searchBehind(int event, int left, int depth, int end) {
+            int at = firstFit(event, depth);
+            int endsNow = Math.max(end, at + events[event].spells);
+            if (endsNow <= length && endsNow < bestEnd) {
+                triedOrder[depth] = event;
+                triedBegins[event] = at;
+                search(left, depth + 1, endsNow);
             }
         }
 
