@@ -195,6 +195,7 @@ public final class DayTest {
         y.enter(3, 0, true);
         y.day(60, 3);
         Due.is("ahead of a laid one, with rest", y.lay(7), 8);
+        orderIs("ahead of a laid one, with rest", y, 0, 1, 2);
         beginsAre("ahead of a laid one, with rest", y, 0, 6, 0);
         y.day(60, 4);
         Due.is("ahead of a laid one, without rest", y.lay(7), 9);

@@ -180,7 +180,11 @@ public final class EntriesTest {
         marksAre("wind ahead", x, 2, 1040, 960);
         x.stone(0, 10000, 33);
         marksAre("slope, cut down", x, 2, 1007, 927);
-        Due.is("mark 6", x.mark(0, 0, 1, 6), -1);
+        Due.is("mark 6", x.mark(0, 0, now(x), 6), -1);
+        Due.is("mark 6 of one who has none", x.mark(0, 5, now(x), 6), -1);
+        x.entry(0, 3, FAULT, 0);
+        x.stone(0, 1000, 0);
+        marksAre("a fault with a light stone", x, 3, -1);
         Due.is("mark -1", x.mark(0, 0, 1, -1), -1);
     }
 
@@ -223,6 +227,7 @@ public final class EntriesTest {
         Due.is("the greatest numbers", x.mark(1, 3, 6, 0), 10255);
         Due.is("no time", x.mark(1, 4, 6, 0), -2);
         Due.is("mark 1 of a race", x.mark(1, 0, 6, 1), -1);
+        Due.is("mark 1 of one who has none", x.mark(1, 4, 6, 1), -1);
         Due.is("a man who is not entered", x.mark(1, 9, 6, 0), -2);
     }
 
@@ -250,6 +255,12 @@ public final class EntriesTest {
         y.entry(2, 0, 2, 1);
         Due.is("three judges", y.mark(2, 0, 4, 0), 104);
         Due.is("mark 1 of a dance", y.mark(2, 0, 4, 1), -1);
+        for (int missing = 0; missing < 3; missing++) {
+            GlenGames z = three();
+            z.entry(2, 0, (missing + 1) % 3, 1);
+            z.entry(2, 0, (missing + 2) % 3, 1);
+            Due.is("without judge " + missing, z.mark(2, 0, 2, 0), -2);
+        }
     }
 
     private static void asOf() {
@@ -346,6 +357,17 @@ public final class EntriesTest {
         dance(y, 1, 2, 3, 1);
         dance(y, 2, 3, 1, 2);
         Due.is("a ring has nobody ahead of all", y.paradox(2, now(y)), -2);
+        GlenGames z = three();
+        dance(z, 0, 1, 5, 9);
+        dance(z, 1, 2, 6, 1);
+        Due.is("man 0", z.paradox(2, now(z)), 0);
+        dance(z, 2, 1, 5, 9);
+        Due.is("two alike are not ahead of each other", z.paradox(2, now(z)), -2);
+        z.entry(2, 2, 1, 4);
+        Due.is("by one judge alone", z.paradox(2, now(z)), -2);
+        z.entry(2, 2, 2, 8);
+        Due.is("man 2 is against man 0 as well", z.place(2, 2, now(z)), 2);
+        Due.is("man 2", z.paradox(2, now(z)), 2);
     }
 
     private static void settled() {
@@ -353,6 +375,14 @@ public final class EntriesTest {
         Due.is("no event", x.settled(3), -1);
         Due.is("no event", x.settled(-1), -1);
         Due.is("no entries", x.settled(1), 0);
+        GlenGames y = three();
+        y.entry(1, 0, 100, 0);
+        Due.is("the first entry", y.settled(1), 1);
+        y.entry(1, 0, 90, 0);
+        Due.is("one man alone", y.settled(1), 1);
+        GlenGames z = three();
+        z.entry(2, 0, 0, 1);
+        Due.is("an entry that tells no place yet", z.settled(2), 0);
         x.entry(0, 0, 100, 0);
         Due.is("none of its entries", x.settled(1), 0);
         x.entry(1, 0, 100, 0);

@@ -101,8 +101,8 @@ public final class FaceTest {
         x.enter(0, 0, true);
         x.enter(1, 0, true);
         Due.is("rest is 1 at first", x.lay(3), 25);
-        x.entry(0, 0, 5000, 0);
-        Due.is("stone and slope at first", x.mark(0, 0, 1, 0), 5000);
+        x.entry(0, 0, 9999, 0);
+        Due.is("stone and slope at first", x.mark(0, 0, 1, 0), 9999);
         x.purse(0, 100);
         Due.is("shares at first, 1", x.won(0, 0), 60);
         x.enter(0, 1, true);

@@ -49,6 +49,7 @@ public final class PursesTest {
         Due.is("n 0", x.type(65, 0), -1);
         Due.is("n 9", x.type(65, 9), -1);
         Due.is("n below 0", x.type(65, -1), -1);
+        Due.is("n 9, all bytes well", x.type(0x3030303030303030L, 9), -1);
         Due.is("byte 31", x.type(31, 1), -1);
         Due.is("byte 127", x.type(127, 1), -1);
         Due.is("byte 255", x.type(-1L, 1), -1);
@@ -159,6 +160,8 @@ public final class PursesTest {
         Due.is("no such event", x.won(1, 0), -1);
         x.purse(0, 9);
         wonAre("9 pence", x, 5, 3, 1, 0);
+        x.purse(0, 34);
+        wonAre("34 pence: 20, 30 and 34 together", x, 20, 10, 4, 0);
         x.purse(0, 100000);
         wonAre("100000 pence", x, 60000, 30000, 10000, 0);
         x.entry(0, 3, 950, 0);
