@@ -555,6 +555,7 @@ public final class GlenGames {
             if ((e.men & o.men) != 0 && at < otherOver + rest && otherBegins < over + rest) {
                 return otherOver + rest;
             }
+            // one that is laid further on leaves its parts free ahead of its beginning, as it does its men
             if ((e.parts & o.parts) != 0 && at < otherOver && otherBegins < over) {
                 return otherOver;
             }

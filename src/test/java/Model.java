@@ -213,7 +213,10 @@ final class Model {
         int width = events.get(event).kind == 1 ? 2 : 3;
         if (i < 0 || (long) i + (long) n * width > items.length) return INDEX;
         List<int[]> rows = new ArrayList<>();
-        for (int k = 0; k < n; k++) rows.add(Arrays.copyOf(Arrays.copyOfRange(items, i + k * width, i + k * width + width), 3));
+        for (int k = 0; k < n; k++) {
+            int from = i + k * width;
+            rows.add(Arrays.copyOf(Arrays.copyOfRange(items, from, from + width), 3));
+        }
         for (int[] r : rows) if (!right(event, r[0], r[1], r[2])) return NOT;
         if (entries.size() + n > 160) return FULL;
         for (int[] r : rows) entry(event, r[0], r[1], r[2]);

@@ -98,7 +98,8 @@ public final class ModelTest {
         int kind = m.told(event, 0);
         int a = kind == 0 ? number(-1, random.nextBoolean() ? 3 : 9999) : kind == 1 ? number(1, 40) : number(0, 2);
         int b = kind == 0 ? number(-20, 20) : kind == 1 ? 0 : number(1, 9);
-        same(seed, "entry " + event + " " + man + " " + a + " " + b, x.entry(event, man, a, b), m.entry(event, man, a, b));
+        String name = "entry " + event + " " + man + " " + a + " " + b;
+        same(seed, name, x.entry(event, man, a, b), m.entry(event, man, a, b));
     }
 
     private void results(int seed, int which) {
