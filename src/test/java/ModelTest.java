@@ -2,7 +2,7 @@ import java.util.Random;
 
 /** All promises: made-up runs of calls, each answer held against the Model's. */
 public final class ModelTest {
-    private static final int RUNS = 400;
+    private static final int RUNS = 600;
     private static final int CALLS = 512;
     private static final String SIGNS = "0123456789,, 15";
 
@@ -11,6 +11,7 @@ public final class ModelTest {
     private final Model m = new Model();
     /** Wrong numbers come once in so many. */
     private final int wrongness;
+    private int calls;
 
     private ModelTest(int seed) {
         random = new Random(seed);
@@ -24,6 +25,7 @@ public final class ModelTest {
         Due.end();
     }
 
+    /** The last step may go on past the last call that is promised; its answers from there on are not held. */
     private void run(int seed) {
         int events = 3 + random.nextInt(6);
         for (int i = 0; i < events; i++) {
@@ -35,13 +37,16 @@ public final class ModelTest {
         for (int i = 0; i < 30; i++) {
             enter(seed);
         }
-        for (int i = 30 + events; i < CALLS; i++) {
+        while (calls < CALLS) {
             step(seed);
         }
     }
 
     private void same(int seed, String call, int got, int due) {
-        Due.is("run " + seed + ": " + call, got, due);
+        calls++;
+        if (calls <= CALLS) {
+            Due.is("run " + seed + ": " + call, got, due);
+        }
     }
 
     private int number(int least, int most) {
